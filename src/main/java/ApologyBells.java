@@ -804,8 +804,8 @@ public final class ApologyBells {
     private static final class Text {
         private final int[] letters = new int[MOST_LETTERS];
         private final int[] numbers = new int[5];
-        private int length;
         private int at;
+        int length;
 
         boolean append(int letter) {
             if (length >= MOST_LETTERS) {
@@ -906,7 +906,7 @@ public final class ApologyBells {
     private static final class Notes {
         private final int[] places = new int[MOST_NOTED];
         private final int[] louds = new int[MOST_NOTED];
-        private int size;
+        int size;
 
         boolean append(int place, int loudThere) {
             if (size >= MOST_NOTED) {
