@@ -25,6 +25,7 @@ final class ActsEdgesTest extends Edges {
         undoNothing();
         undoTheLastEight();
         undoDaysAtOneTime();
+        undoEachOfThese();
         undoActsAlone();
         undoBehindUndo();
         end();
@@ -353,6 +354,28 @@ final class ActsEdgesTest extends Edges {
         are("it hangs again", what -> x.bell(1, what), 7, 3, 30, 0, 17, 0);
         is("not in store", x.count(2), 0);
         is("not in store", x.count(3), 0);
+    }
+
+    private static void undoEachOfThese() {
+        sentence(16, "UNDONE are the latest of these, of DAYS");
+        ApologyBells x = Due.laid("w0,5,9;w0,30,9;b0,1,0,5,0;m9,9;");
+        x.cast(1, 2, 1);
+        is("CAST", x.undo(), 0);
+        is("CAST no more", x.wrong(1, 5), 0);
+        x.hang(0, 40, 23);
+        is("HUNG", x.undo(), 0);
+        are("HUNG as it was", what -> x.bell(0, what), 1, 0, 5, 0);
+        x.takeDown(0);
+        is("TAKEN DOWN", x.undo(), 0);
+        are("it hangs", what -> x.bell(0, what), 1, 0, 5, 0);
+        x.melt(0);
+        is("MELTED", x.undo(), 0);
+        are("it hangs", what -> x.bell(0, what), 1, 0, 5, 0);
+        is("not in store", x.count(2), 9);
+        x.pass(1);
+        is("a DAY", x.undo(), 0);
+        is("no DAY", x.count(1), 0);
+        is("nothing else", x.undo(), NO);
     }
 
     private static void undoActsAlone() {

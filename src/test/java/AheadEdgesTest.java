@@ -390,6 +390,9 @@ final class AheadEdgesTest extends Edges {
         is("TIN to a PROUD one", x.hush(2), NONE);
         x.hang(0, 21, 0);
         is("1 LOUD", x.hush(0), 14);
+        for (int kind = 0; kind <= 3; kind++) {
+            is("0 LOUD to one of KIND " + kind, Due.laid("w" + kind + ",20,9;b0,9,0,2,0;").hush(0), NONE);
+        }
         ApologyBells y = Due.laid("w1,20,9;w3,20,9;b0,4,0,20,0;b1,5,0,20,0;");
         is("8 LOUD to a DEAF one", y.hush(0), 2);
         is("no TIN to a PROUD one", y.hush(1), 0);

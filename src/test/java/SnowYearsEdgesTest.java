@@ -82,6 +82,8 @@ final class SnowYearsEdgesTest extends Edges {
         snow(x, 1, 3, 7, 10);
         snow(x, 1, 1, 9, 10);
         snow(x, 2, 5, 3, 4);
+        snow(x, 2, 1, 99, 100);
+        snow(x, 2, 9, 19, 100);
         snow(x, 8, 5, 255, 256);
         snow(x, 8, 3, 99993439, 100000000);
         snow(x, 8, 9, 56953279, 100000000);
@@ -163,6 +165,9 @@ final class SnowYearsEdgesTest extends Edges {
         // z 49: DRAW 2520, 4 of COPPER, 4 of TIN.
         is("all of the TIN", copperBy(49, "w0,5,1;m20,4;"), 16);
         is("a TIN less", copperBy(49, "w0,5,1;m20,3;"), 20);
+        // z 42: DRAW 42056, 1 of COPPER, 2 of TIN.
+        is("all of the TIN", copperBy(42, "w0,5,1;m20,2;"), 19);
+        is("a TIN less", copperBy(42, "w0,5,1;m20,1;"), 20);
         is("it has one", copperBy(5, "w0,5,1;b0,1,0,40,0;m20,20;"), 20);
         ApologyBells x = Due.laid("w0,5,1;b0,1,0,5,0;m20,20;");
         x.pass(1);
@@ -193,8 +198,8 @@ final class SnowYearsEdgesTest extends Edges {
 
     private static void yearHangsInAnHour() {
         sentence(28, "in HOUR (DRAW by 512, cut) modulo 24");
-        // z: DRAW, WRONG of 7, PLACE, HOUR. 136: 49155, 5, 30, 0. 264: 36786, 6, 0, 23. 342: 24099, 2, 7, 23.
-        int[][] draws = {{136, 5, 30, 0}, {264, 6, 0, 23}, {342, 2, 7, 23}};
+        // z: DRAW, WRONG of 7, PLACE, HOUR. 136: 49155, 5, 30, 0. 264: 36786, 6, 0, 23. 342: 24099, 2, 7, 23. 953: 49131, 2, 29, 23.
+        int[][] draws = {{136, 5, 30, 0}, {264, 6, 0, 23}, {342, 2, 7, 23}, {953, 2, 29, 23}};
         for (int[] draw : draws) {
             for (int hour : new int[] {0, 1, 22, 23}) {
                 String wrongs = ("w0," + draw[2] + ",1;").repeat(7);

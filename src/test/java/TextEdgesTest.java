@@ -39,6 +39,7 @@ final class TextEdgesTest extends Edges {
         laidWithOneAndSeven();
         nothingLeftBehindLay();
         nothingOfALongerStreetIsLeft();
+        nothingOfWhatComesIsLeft();
         textStays();
         end();
     }
@@ -427,6 +428,16 @@ final class TextEdgesTest extends Edges {
         are("the second one", what -> x.wrong(1, what), 0, 1, 1, 0, 0, 0);
         is("no BELL", x.bell(0, 0), NONE);
         is("no BELL", x.bell(1, 0), NONE);
+        is("DAY", x.count(1), 0);
+    }
+
+    private static void nothingOfWhatComesIsLeft() {
+        sentence(5, "At first nothing is HEARD, FORGIVEN, it is DAY 0");
+        ApologyBells x = Due.laid("w0,1,2;w0,20,20;b0,9,0,1,0;b1,9,0,20,0;");
+        is("FORGIVEN behind three DAYS", x.by(3), 1);
+        x.lay();
+        are("the first one", what -> x.wrong(0, what), 0, 1, 2, 0, 0, 2);
+        are("the second one", what -> x.wrong(1, what), 0, 20, 20, 0, 0, 2);
         is("DAY", x.count(1), 0);
     }
 
